@@ -960,6 +960,8 @@ public final class UnsaidBallast {
         private static final int WIND_LINE = 4, RATE_LINE = 5, START_LINE = 6, LINE_KINDS = 7;
 
         private final int[] bytes = new int[MOST_BYTES];
+        /** Of which sort each byte is, told as it comes, so that reading goes no deeper than it must. */
+        private final int[] sorts = new int[MOST_BYTES];
         int length;
         int fault;
         private int faultAt;
@@ -976,6 +978,7 @@ public final class UnsaidBallast {
                 return FULL;
             }
             bytes[length] = c;
+            sorts[length] = sortOf(c);
             length++;
             return length;
         }
@@ -1021,14 +1024,15 @@ public final class UnsaidBallast {
         private boolean nextToken() {
             next = endOfRun(BLANK, next);
             tokenAt = next;
-            token = next < length ? sortOf(bytes[next]) : END;
+            token = next < length ? sorts[next] : END;
             switch (token) {
                 case NAME:
                     next = endOfRun(NAME, next);
                     return true;
                 case NUMBER:
                     next = endOfRun(NUMBER, next);
-                    return takeNumber();
+                    value = valueOf(tokenAt, next);
+                    return next - tokenAt <= 2 || failAt(tokenAt, NO_TOKEN);
                 case SEMICOLON:
                     next++;
                     return true;
@@ -1039,20 +1043,17 @@ public final class UnsaidBallast {
             }
         }
 
-        private boolean takeNumber() {
-            if (next - tokenAt > 2) {
-                return failAt(tokenAt, NO_TOKEN);
+        private int valueOf(int from, int to) {
+            int v = 0;
+            for (int p = from; p < to; p++) {
+                v = 10 * v + bytes[p] - '0';
             }
-            value = 0;
-            for (int p = tokenAt; p < next; p++) {
-                value = 10 * value + bytes[p] - '0';
-            }
-            return true;
+            return v;
         }
 
         private int endOfRun(int sort, int from) {
             int p = from;
-            while (p < length && sortOf(bytes[p]) == sort) {
+            while (p < length && sorts[p] == sort) {
                 p++;
             }
             return p;

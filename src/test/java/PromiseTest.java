@@ -136,11 +136,13 @@ public final class PromiseTest {
         x.keep(1);
         x.sheet(0, 0, 3);
         x.read(1, 0, 0, 1);
+        due("runs(9, 4)", x.runs(9, 4), 3);
         tell(x, "plain 1 0;!");
         int[] before = {2, 2, 30, 23, 9, 1, 6, 1};
         for (int what = 0; what < 8; what++) due("a refused text leaves rule(" + what + ")", x.rule(what), before[what]);
         due("a refused text leaves what is SEEN", x.count(0), 1);
         due("a refused text leaves IMAGES", x.count(1), 2);
+        due("runs(9, 4)", x.runs(9, 4), 3);
         due("text() of one THING", tell(x, "secret 4 1;"), 1);
         int[] after = {1, 0, 0, 0, 8, 0, 1, 0};
         for (int what = 0; what < 8; what++) due("a text tells rule(" + what + ")", x.rule(what), after[what]);
@@ -151,6 +153,8 @@ public final class PromiseTest {
         due("back(1)", x.back(1), STATE);
         due("SHEETS stay", x.count(3), 3);
         due("torn() stays", x.torn(), 1);
+        due("what was told once may be told anew", tell(x, "wind 3 1;rate 2;start 3 4;"), 3);
+        due("and again", tell(x, "wind 3 1;rate 2;start 3 4;"), 3);
         due("an empty text", x.text(), 0);
         due("no THINGS then", x.rule(0), 0);
     }
@@ -172,9 +176,16 @@ public final class PromiseTest {
         faulty("plain 1 1234567", 8, 1);
         faulty("plain 1 0!", 9, 1);
         faulty("rate 1;!", 7, 1);
+        faulty("rate 1 123", 7, 1);
+        faulty("rate 1 123;", 7, 1);
+        faulty("start 1 !;", 8, 1);
+        faulty("wind 1 100;", 7, 1);
         faulty("plai 1 0;", 0, 2);
         faulty("plains 1 0;", 0, 2);
         faulty(" plainplain 1 0;", 1, 2);
+        faulty("blain 1 0;", 0, 2);
+        faulty("plaim 1 0;", 0, 2);
+        faulty("stare 1 0;", 0, 2);
         faulty("1", 0, 2);
         faulty(";", 0, 2);
         faulty("rate 1;;", 7, 2);
@@ -682,6 +693,15 @@ public final class PromiseTest {
         due("falls()", saved.falls(), NONE);
         due("swap(0), of several the least", saved.swap(0), 1);
         due("swap(1)", saved.swap(1), 4);
+        UnsaidBallast deep = told("plain 4 0;plain 3 1;rate 3;start 3 0;");
+        deep.say(0);
+        deep.plan(99, 0);
+        deep.plan(98, 0);
+        deep.plan(2, 0);
+        deep.plan(5, 1);
+        due("falls()", deep.falls(), 6);
+        due("swap(0): all others put it off", deep.swap(0), 23);
+        due("swap(1)", deep.swap(1), 3);
         for (int what : new int[] {-1, 2, MIN, MAX}) due("swap(" + what + ")", x.swap(what), BAD);
     }
 
@@ -892,6 +912,9 @@ public final class PromiseTest {
         due("ask(0, 1)", tact.ask(0, 1), 2);
         tact.see(1, 2);
         due("ask(0, 0): 4 or 5 is never told", tact.ask(0, 0), NONE);
+        UnsaidBallast high = told(staying(60));
+        due("ask(3, 0): 60 yards at most", high.ask(3, 0), 2);
+        due("ask(3, 1): 6 to 9 are alike", high.ask(3, 1), 4);
         UnsaidBallast late = told("plain 4 0;start 40 0;");
         due("ask(0, 0): down to 10 behind 30", late.ask(0, 0), NONE);
         UnsaidBallast late2 = told("plain 4 0;start 38 0;");
