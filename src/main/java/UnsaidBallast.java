@@ -31,7 +31,6 @@ public final class UnsaidBallast {
     private final Sheet[] sheets = new Sheet[SHEETS];
     private final Choice choice = new Choice();
     private final int[][] heightByWeight = new int[HEAVIEST + 1][LONGEST_STEP + 1];
-    private final int[] tally = new int[HIGHEST + 1];
     private int torn;
 
     public UnsaidBallast() {
@@ -480,16 +479,24 @@ public final class UnsaidBallast {
     }
 
     private int mostLeftByLooking(int open, int t) {
-        Arrays.fill(tally, 0);
         int most = 0;
         for (int w = LIGHTEST; w <= HEAVIEST; w++) {
             if ((open >> w & 1) == 1) {
-                int h = heightByWeight[w][t];
-                tally[h]++;
-                most = Math.max(most, tally[h]);
+                most = Math.max(most, alikeBehind(w, open, t));
             }
         }
         return most;
+    }
+
+    /** How many of the open WEIGHTS are as high behind t MINUTES as w is. */
+    private int alikeBehind(int w, int open, int t) {
+        int alike = 0;
+        for (int other = LIGHTEST; other <= HEAVIEST; other++) {
+            if ((open >> other & 1) == 1 && heightByWeight[other][t] == heightByWeight[w][t]) {
+                alike++;
+            }
+        }
+        return alike;
     }
 
     // ---- by a seed
