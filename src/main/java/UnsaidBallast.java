@@ -574,13 +574,13 @@ public final class UnsaidBallast {
         int before = now.sayings.size;
         int came = 0;
         int found = 0;
-        while (came < n && found == 0) {
-            int cell = f + 2 * came;
+        for (int i = 0; i < n && found == 0; i++) {
+            int cell = f + 2 * i;
             found = s.faultOfPair(lane, cell);
             if (found == 0) {
                 if (now.addSaying(s.cells[cell], s.cells[cell + 1]) < 0) {
                     now.sayings.keepFirst(before);
-                    return REFUSED_BASE - came;
+                    return REFUSED_BASE - i;
                 }
                 came++;
             }

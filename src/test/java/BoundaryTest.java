@@ -911,6 +911,28 @@ public final class BoundaryTest {
         leaves("best(1) behind 60", () -> told("plain 4 0;start 60 0;"), x -> x.best(1), 60);
     }
 
+    /** What one call has found is nothing to the next. */
+    private static void noneBehindSome() {
+        sentence = "NONE (there is none)";
+        Supplier<UnsaidBallast> asked = () -> {
+            UnsaidBallast x = still();
+            x.plan(3, 0);
+            x.plan(3, 0);
+            x.see(1, 7);
+            return x;
+        };
+        Call[] calls = {x -> x.best(0), x -> x.both(49, 1), x -> x.hush(60, 0), x -> x.swap(1), x -> x.ask(0, 0), x -> x.church(49),
+            x -> x.falls(), x -> x.need(0, 1, 60)};
+        for (int k = 0; k < calls.length; k++) {
+            Call call = calls[k];
+            UnsaidBallast x = asked.get();
+            due("steer(0, 49, 1, 0)", x.steer(0, 49, 1, 0), 3);
+            due("call " + k + " behind it", call.on(x), NONE);
+            due("when(0, 49, 1, 1)", x.when(0, 49, 1, 1), 1);
+            due("call " + k + " behind it", call.on(x), NONE);
+        }
+    }
+
     private static UnsaidBallast saidAll(String s) {
         UnsaidBallast x = told(s);
         for (int i = 0; i < x.rule(0); i++) x.say(i);
@@ -1144,6 +1166,8 @@ public final class BoundaryTest {
         leaves("ask(0, 0) at 31", () -> told("plain 1 0;start 39 0;"), x -> x.ask(0, 0), NONE);
         leaves("ask(0, 1) at 31", () -> told("plain 1 0;start 39 0;"), x -> x.ask(0, 1), NONE);
         leaves("ask(0, 0) of one WEIGHT", stillSeen(1, 7), x -> x.ask(0, 0), NONE);
+        leaves("ask(0, 0) of WEIGHT 1 alone", stillSeen(1, 4), x -> x.ask(0, 0), NONE);
+        leaves("ask(0, 0) of WEIGHT 9 alone", stillSeen(1, 12), x -> x.ask(0, 0), NONE);
         leaves("ask(0, 0) of no WEIGHT", stillSeen(1, 3), x -> x.ask(0, 0), NONE);
         Supplier<UnsaidBallast> two = () -> {
             UnsaidBallast x = told("plain 4 0;start 17 0;rate 9;");
@@ -1165,6 +1189,7 @@ public final class BoundaryTest {
                 leaves("drift(" + seed + ", " + n + ", 0)", BoundaryTest::still, x -> x.drift(seed, n, 0), drifted(seed, n, 0));
             }
         }
+        leaves("drift(0, 1, 0) of one THING", () -> saidAll("plain 5 0;rate 9;"), x -> x.drift(0, 1, 0), 5);
         leaves("drift(0, 1, 0) of no THINGS", BoundaryTest::fresh, x -> x.drift(0, 1, 0), STATE);
         leaves("drift(0, 60, 1) of no THINGS", BoundaryTest::fresh, x -> x.drift(0, 60, 1), STATE);
     }
@@ -1467,6 +1492,7 @@ public final class BoundaryTest {
         minutesAsTheyWouldBe();
         howSoonDown();
         bestToSay();
+        noneBehindSome();
         bothToSay();
         whenToSay();
         howToSteer();

@@ -11,7 +11,7 @@ public final class ModelTest {
 
     /** A call's name, how often it comes, and the bounds of its numbers, a pair each. */
     private static final String[] CALLS_BY_BOUNDS = {
-        "end 1 0 9", "rule 1 0 7", "thing 2 0 5 0 4", "wind 1 0 4", "saying 2 0 7 0 1",
+        "feed 1 0 127", "end 1 0 9", "rule 1 0 7", "thing 2 0 5 0 4", "wind 1 0 4", "saying 2 0 7 0 1",
         "alter 4 0 5 0 2 0 9", "blow 3 0 4 0 8", "rate 3 1 9", "say 4 0 5", "take 4 0 5", "plan 8 0 99 0 5", "cut 2 0 8",
         "minutes 3 0 30", "runs 5 0 60 0 4", "falls 2", "church 4 0 99",
         "best 4 0 1", "both 4 0 99 0 1", "when 4 0 5 0 99 0 60 0 1", "steer 4 0 4 0 99 0 60 0 1", "hush 2 0 60 0 1",
@@ -111,6 +111,7 @@ public final class ModelTest {
 
     private void tellText() throws Exception {
         String s = sourceText();
+        if (dice.nextInt(4) > 0) call("end", 0);
         for (int p = 0; p < s.length(); p++) call("feed", s.charAt(p));
         call("text");
         call("fault");
@@ -176,8 +177,19 @@ public final class ModelTest {
         throw new IllegalStateException();
     }
 
+    /** Some runs begin where calls are about to be FULL. */
+    private void beginAtAnEnd(int which) throws Exception {
+        if (which == 0) {
+            for (int n = 0; n < 33; n++) call("minutes", 30);
+        } else if (which == 1) {
+            for (int n = 0; n < 155; n++) call("feed", n < 70 ? "rate 1;".charAt(n % 7) : ' ');
+        }
+        compareAll();
+    }
+
     private boolean run() throws Exception {
         tellText();
+        beginAtAnEnd(dice.nextInt(12));
         for (int t = 0; t < CALLS && wrong == 0; t++) {
             if (dice.nextInt(150) == 0) {
                 tellText();
