@@ -68,6 +68,16 @@ public final class FaceTest {
         if (seen != names.length) wrong(seen + " fields are seen");
     }
 
+    /** No static state: constants alone, here and in the classes inside. */
+    private static void statics(Class<?> face) {
+        Set<Class<?>> types = Set.of(int.class, long.class, boolean.class, char.class, String.class);
+        for (Field f : face.getDeclaredFields()) {
+            int m = f.getModifiers();
+            if (Modifier.isStatic(m) && (!Modifier.isFinal(m) || !types.contains(f.getType()))) wrong("no constant: " + f);
+        }
+        for (Class<?> inner : face.getDeclaredClasses()) statics(inner);
+    }
+
     public static void main(String[] args) throws Exception {
         Class<?> face = UnsaidBallast.class;
         if (!Modifier.isFinal(face.getModifiers()) || !Modifier.isPublic(face.getModifiers())) wrong("not public and final");
@@ -75,6 +85,7 @@ public final class FaceTest {
         if (makers.length != 1 || makers[0].getParameterCount() != 0 || !Modifier.isPublic(makers[0].getModifiers())) wrong("the constructor");
         methods(face);
         constants(face);
+        statics(face);
         System.out.println(wrong == 0 ? "the face is the document's" : wrong + " things are not as told");
         if (wrong != 0) System.exit(1);
     }

@@ -39,6 +39,13 @@ public final class LanguageTest {
         }
     }
 
+    /** A run's objects live in one room: they are made with the object, by constructors. */
+    private static void makesNothing(String[] lines, int from, int to) {
+        for (int k = from; k <= to; k++) {
+            if (Pattern.compile("\\bnew\\b|\\.clone\\(|copyOf").matcher(lines[k]).find()) wrong("a call makes an object: " + lines[k].trim());
+        }
+    }
+
     private static void methods(String code) {
         String[] lines = code.split("\n");
         for (int k = 0; k < lines.length; k++) {
@@ -49,6 +56,7 @@ public final class LanguageTest {
             int end = k;
             while (!lines[end].equals(m.group(1) + "}")) end++;
             if (end - k > 60) wrong("a long method: " + lines[k]);
+            if (!lines[k].trim().matches("(public |private )?[A-Z]\\w*\\(.*")) makesNothing(lines, k, end);
         }
     }
 
